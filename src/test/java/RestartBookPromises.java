@@ -60,6 +60,7 @@ public final class RestartBookPromises {
         force();
         point();
         pointsInRestart();
+        latestPoint();
         loss();
         lossesInEveryPart();
         restart();
@@ -151,6 +152,12 @@ public final class RestartBookPromises {
         }
         due("begin: 201 in all", x.begin(), ROOM);
 
+        x = begun(1);
+        x.add(1, 0, 0, 1);
+        x.commit(1);
+        x.begin();
+        dueTable("begin: nothing of the work that was there", x, 0, 2, 1, 0, 0);
+
         x = begun(3);
         x.loss(0);
         due("begin: numbers are not given again", x.begin(), 4);
@@ -206,6 +213,25 @@ public final class RestartBookPromises {
         }
         due("add: 2,000 changes", x.add(1, 0, 0, 1), ROOM);
         due("add: OUTSIDE before ROOM", x.add(1, 0, 8, 1), OUTSIDE);
+        x.prepare(1);
+        due("add: STATE before ROOM", x.add(1, 0, 0, 1), STATE);
+
+        x = begun(1);
+        for (int i = 1; i <= 2000; i++) {
+            x.add(1, i % 64, i % 8, i);
+        }
+        due("loss", x.loss(1990), 1990);
+        x.restart(MAX);
+        x.begin();
+        for (int i = 1; i <= 10; i++) {
+            due("add: room for ten", x.add(2, 0, 0, 1), 1990 + 1990 + 1 + i);
+        }
+        due("add: no room for more", x.add(2, 0, 0, 1), ROOM);
+
+        x = begun(1);
+        for (int i = 1; i <= 2000; i++) {
+            x.add(1, i % 64, i % 8, i);
+        }
         due("back", x.back(1, 0), 2000);
         due("add: undone changes are in the log", x.add(1, 0, 0, 1), ROOM);
         x.force(1500);
@@ -454,12 +480,36 @@ public final class RestartBookPromises {
         due("words", x.word(5, 0), 3);
         due("words", x.word(3, 0) + x.word(4, 1) + x.word(6, 0), 0);
 
-        due("the latest point", x.point(), 18);
-        due("loss", x.loss(0), 19);
+        x = begun(1);
+        x.add(1, 0, 0, 1);
+        x.add(1, 63, 7, 2);
+        x.prepare(1);
+        x.point();
+        x.loss(0);
+        x.restart(2);
+        due("told: the first page", x.page(0, 1), 1);
+        due("told: the last page", x.page(63, 1), 2);
+        due("again", x.restart(99), 5);
+        due("again", x.word(0, 0) + x.word(63, 7), 3);
+    }
+
+    private static void latestPoint() {
+        RestartBook x = begun(3);
+        x.add(3, 5, 0, 3);
+        x.prepare(3);
+        x.add(1, 6, 0, 4);
+        due("a point", x.point(), 4);
+        x.commit(1);
+        x.commit(2);
+        x.write(6);
+        due("the latest point", x.point(), 10);
+        due("loss", x.loss(0), 11);
         due("looked from the latest point on", x.restart(2), 2);
         due("looked from the latest point on", x.part(), 2);
-        dueTable("told by the latest point", x, 0, 3, 3, 4, 3);
+        dueTable("told by the latest point", x, 0, 3, 3, 2, 1);
         due("told by the latest point", x.table(1, 0), NONE);
+        due("told by the latest point", x.page(5, 1), 1);
+        due("told by the latest point", x.page(6, 1), NONE);
     }
 
     // Promise 11
