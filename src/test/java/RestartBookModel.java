@@ -1,4 +1,5 @@
 import java.util.ArrayList;
+import java.util.Arrays;
 import java.util.List;
 import java.util.Map;
 import java.util.Random;
@@ -7,10 +8,13 @@ import java.util.TreeMap;
 /**
  * Chance runs of fixed seeds: every answer is held against a second writing of the document, which follows its words
  * by search where the program keeps books; and laws that follow from the log alone must hold whenever a book is up.
+ * A book answers 512 calls alone: for more questions the calls are made once more on new books.
  */
 public final class RestartBookModel {
     private static final int NONE = -1, UNKNOWN = -101, OUTSIDE = -102, STATE = -103, ROOM = -104, DOWN = -105;
-    private static final int CALLS = 512;
+    private static final int MOST_CALLS = 512;
+    /** Short enough for some 250 questions behind the calls, to one book. */
+    private static final int CALLS_OF_A_SHORT_RUN = 260;
 
     private static int wrong = 0;
 
@@ -322,26 +326,89 @@ public final class RestartBookModel {
         }
     }
 
+    /** What is called, with up to four numbers: one shape for the book, the model and a later book. */
+    private static final class Call {
+        final String name;
+        final int[] with;
+
+        Call(String name, int... with) {
+            this.name = name;
+            this.with = with;
+        }
+
+        int on(RestartBook x) {
+            switch (name) {
+                case "begin": return x.begin();
+                case "add": return x.add(with[0], with[1], with[2], with[3]);
+                case "back": return x.back(with[0], with[1]);
+                case "prepare": return x.prepare(with[0]);
+                case "commit": return x.commit(with[0]);
+                case "abort": return x.abort(with[0]);
+                case "write": return x.write(with[0]);
+                case "force": return x.force(with[0]);
+                case "point": return x.point();
+                case "loss": return x.loss(with[0]);
+                case "restart": return x.restart(with[0]);
+                case "part": return x.part();
+                case "word": return x.word(with[0], with[1]);
+                case "page": return x.page(with[0], with[1]);
+                case "table": return x.table(with[0], with[1]);
+                case "record": return x.record(with[0], with[1]);
+                default: return x.count(with[0]);
+            }
+        }
+
+        int on(Model x) {
+            switch (name) {
+                case "begin": return x.begin();
+                case "add": return x.add(with[0], with[1], with[2], with[3]);
+                case "back": return x.back(with[0], with[1]);
+                case "prepare": return x.prepare(with[0]);
+                case "commit": return x.commit(with[0]);
+                case "abort": return x.abort(with[0]);
+                case "write": return x.write(with[0]);
+                case "force": return x.force(with[0]);
+                case "point": return x.point();
+                case "loss": return x.loss(with[0]);
+                case "restart": return x.restart(with[0]);
+                case "part": return x.part;
+                case "word": return x.word(with[0], with[1]);
+                case "page": return x.page(with[0], with[1]);
+                case "table": return x.table(with[0], with[1]);
+                case "record": return x.record(with[0], with[1]);
+                default: return x.count(with[0]);
+            }
+        }
+
+        @Override
+        public String toString() {
+            return name + Arrays.toString(with).replace('[', '(').replace(']', ')');
+        }
+    }
+
     private final int seed;
     private final Random chance;
     private final RestartBook book = new RestartBook();
     private final Model model = new Model();
+    private final List<Call> made = new ArrayList<>();
+    private RestartBook asked;
+    private int questionsLeft = 0;
     private final int pages;
     private final int works;
     private final int lossIn;
-    private String call = "";
 
     private RestartBookModel(int seed) {
         this.seed = seed;
         this.chance = new Random(seed);
         this.pages = seed % 3 == 0 ? 64 : 1 + seed % 5;
-        this.works = 2 + seed % 14;
+        this.works = 2 + seed % 15;
         this.lossIn = 5 + seed % 60;
     }
 
-    private void due(String what, int got, int want) {
+    private void due(Object what, int got, int want) {
         if (got != want && wrong++ < 20) {
-            System.out.println("seed " + seed + ", behind " + call + ": " + what + " answered " + got + ", due is " + want);
+            System.out.println("seed " + seed + ", call " + made.size() + ": " + what + " answered " + got
+                    + ", due is " + want);
         }
     }
 
@@ -359,114 +426,108 @@ public final class RestartBookModel {
         return chance.nextInt(4) == 0 ? chance.nextInt() : chance.nextInt(100) - 50;
     }
 
-    private void oneCall(int i) {
-        int work = someWork();
-        int page = oddly(chance.nextInt(pages));
-        int n = oddly(chance.nextInt(model.log.size() + 2));
-        int got;
-        int want;
-        if (model.part != 0 && chance.nextInt(3) > 0) {
-            n = chance.nextInt(6) == 0 ? Integer.MAX_VALUE : oddly(chance.nextInt(30));
-            call = i + " restart(" + n + ")";
-            got = book.restart(n);
-            want = model.restart(n);
-        } else if (chance.nextInt(lossIn) == 0) {
-            n = oddly(chance.nextInt(1 + chance.nextInt(40)));
-            call = i + " loss(" + n + ")";
-            got = book.loss(n);
-            want = model.loss(n);
-        } else {
-            int kind = chance.nextInt(40);
-            if (kind < 7 && model.works.size() >= works) {
-                kind = 12;
-            }
-            if (kind < 7) {
-                call = i + " begin()";
-                got = book.begin();
-                want = model.begin();
-            } else if (kind < 25) {
-                int word = oddly(chance.nextInt(8));
-                int much = someMuch();
-                call = i + " add(" + work + ", " + page + ", " + word + ", " + much + ")";
-                got = book.add(work, page, word, much);
-                want = model.add(work, page, word, much);
-            } else if (kind < 28) {
-                call = i + " back(" + work + ", " + n + ")";
-                got = book.back(work, n);
-                want = model.back(work, n);
-            } else if (kind < 30) {
-                call = i + " prepare(" + work + ")";
-                got = book.prepare(work);
-                want = model.prepare(work);
-            } else if (kind < 32) {
-                call = i + " commit(" + work + ")";
-                got = book.commit(work);
-                want = model.commit(work);
-            } else if (kind < 34) {
-                call = i + " abort(" + work + ")";
-                got = book.abort(work);
-                want = model.abort(work);
-            } else if (kind < 37) {
-                call = i + " write(" + page + ")";
-                got = book.write(page);
-                want = model.write(page);
-            } else if (kind < 38) {
-                call = i + " force(" + n + ")";
-                got = book.force(n);
-                want = model.force(n);
-            } else if (kind < 39) {
-                call = i + " point()";
-                got = book.point();
-                want = model.point();
-            } else {
-                call = i + " restart(" + page + ")";
-                got = book.restart(page);
-                want = model.restart(page);
-            }
-        }
-        due(call, got, want);
+    private int someRecord() {
+        return oddly(chance.nextInt(model.log.size() + 2));
     }
 
-    /** What is asked does not change the book, so it may be asked all at once. */
+    private Call someCall() {
+        if (model.part != 0 && chance.nextInt(3) > 0) {
+            return new Call("restart", chance.nextInt(6) == 0 ? Integer.MAX_VALUE : oddly(chance.nextInt(30)));
+        }
+        if (chance.nextInt(lossIn) == 0) {
+            return new Call("loss", oddly(chance.nextInt(1 + chance.nextInt(40))));
+        }
+        int page = oddly(chance.nextInt(pages));
+        int kind = chance.nextInt(40);
+        if (kind < 7 && model.works.size() < works) return new Call("begin");
+        if (kind < 25) return new Call("add", someWork(), page, oddly(chance.nextInt(8)), someMuch());
+        if (kind < 28) return new Call("back", someWork(), someRecord());
+        if (kind < 30) return new Call("prepare", someWork());
+        if (kind < 32) return new Call("commit", someWork());
+        if (kind < 34) return new Call("abort", someWork());
+        if (kind < 37) return new Call("write", page);
+        if (kind < 38) return new Call("force", someRecord());
+        if (kind < 39) return new Call("point");
+        return new Call("restart", page);
+    }
+
+    private Call someQuestion() {
+        switch (chance.nextInt(8)) {
+            case 0: return new Call("part");
+            case 1: return new Call("word", oddly(chance.nextInt(pages)), oddly(chance.nextInt(8)));
+            case 2: return new Call("page", oddly(chance.nextInt(pages)), oddly(chance.nextInt(3)));
+            case 3: return new Call("table", oddly(chance.nextInt(works)), oddly(chance.nextInt(4)));
+            case 4: return new Call("count", oddly(chance.nextInt(6)));
+            default: return new Call("record", someRecord(), oddly(chance.nextInt(7)));
+        }
+    }
+
+    private void make(Call call) {
+        int want = call.on(model);
+        due(call, call.on(book), want);
+        made.add(call);
+        questionsLeft = 0;
+    }
+
+    /** A book behind the same calls, with a question left to it. */
+    private RestartBook asked() {
+        if (questionsLeft == 0) {
+            asked = new RestartBook();
+            for (Call call : made) {
+                call.on(asked);
+            }
+            questionsLeft = MOST_CALLS - made.size();
+        }
+        questionsLeft--;
+        return asked;
+    }
+
+    private void ask(String name, int... with) {
+        Call call = new Call(name, with);
+        due(call, call.on(asked()), call.on(model));
+    }
+
     private void compareAll() {
-        due("part()", book.part(), model.part);
+        ask("part");
         for (int what = -1; what <= 6; what++) {
-            due("count(" + what + ")", book.count(what), model.count(what));
+            ask("count", what);
         }
         for (int i = -1; i <= 17; i++) {
             for (int what = -1; what <= 4; what++) {
-                due("table(" + i + ", " + what + ")", book.table(i, what), model.table(i, what));
+                ask("table", i, what);
             }
         }
         for (int page = -1; page <= 64; page++) {
             for (int what = -1; what <= 3; what++) {
-                due("page(" + page + ", " + what + ")", book.page(page, what), model.page(page, what));
+                ask("page", page, what);
             }
             for (int word = -1; word <= 8; word++) {
-                due("word(" + page + ", " + word + ")", book.word(page, word), model.word(page, word));
+                ask("word", page, word);
             }
         }
         for (int n = -1; n <= model.log.size() + 3; n++) {
             for (int what = -1; what <= 7; what++) {
-                due("record(" + n + ", " + what + ")", book.record(n, what), model.record(n, what));
+                ask("record", n, what);
             }
         }
     }
 
     /** Whenever a book is up, its pages are the sum of its log, and only works in the table are open in it. */
     private void checkLaws() {
-        if (book.part() != 0) {
+        if (asked().part() != 0) {
             return;
         }
         int[][] sums = new int[64][8];
         int[] marks = new int[64];
         TreeMap<Integer, Integer> open = new TreeMap<>();
-        for (int n = 1; n <= book.count(0); n++) {
-            int kind = book.record(n, 0);
-            int work = book.record(n, 1);
+        int records = asked().count(0);
+        for (int n = 1; n <= records; n++) {
+            int kind = asked().record(n, 0);
+            int work = asked().record(n, 1);
+            int page = asked().record(n, 3);
             if (kind <= 2) {
-                sums[book.record(n, 3)][book.record(n, 4)] += book.record(n, 5);
-                marks[book.record(n, 3)] = n;
+                sums[page][asked().record(n, 4)] += asked().record(n, 5);
+                marks[page] = n;
             }
             if (kind == 5) {
                 open.remove(work);
@@ -475,36 +536,42 @@ public final class RestartBookModel {
             }
         }
         for (int page = 0; page < 64; page++) {
-            due("law: mark of page " + page, book.page(page, 0), marks[page]);
+            due("law: mark of page " + page, asked().page(page, 0), marks[page]);
             for (int word = 0; word < 8; word++) {
-                due("law: word " + word + " of page " + page, book.word(page, word), sums[page][word]);
+                due("law: word " + word + " of page " + page, asked().word(page, word), sums[page][word]);
             }
         }
         for (int i = 0; i < 16; i++) {
-            int work = book.table(i, 0);
+            int work = asked().table(i, 0);
             if (work != NONE) {
                 Integer last = open.remove(work);
-                due("law: last of " + work, book.table(i, 2), last == null ? 0 : last);
+                due("law: last of " + work, asked().table(i, 2), last == null ? 0 : last);
             }
         }
         due("law: open works that are not in the table", open.size(), 0);
     }
 
-    private void run() {
-        for (int i = 1; i <= CALLS; i++) {
-            oneCall(i);
-            if (i % 16 == seed % 16 || i == CALLS) {
+    /** All that can be asked is asked now and then, and at the end, behind a whole restart. */
+    private void runShort() {
+        for (int i = 1; i <= CALLS_OF_A_SHORT_RUN; i++) {
+            make(someCall());
+            if (i % 32 == seed % 32) {
                 compareAll();
-            }
-            if (i % 8 == 0) {
                 checkLaws();
             }
         }
-        call = "the end";
-        due("loss(0)", book.loss(0), model.loss(0));
-        due("restart", book.restart(Integer.MAX_VALUE), model.restart(Integer.MAX_VALUE));
+        make(new Call("loss", 0));
+        make(new Call("restart", Integer.MAX_VALUE));
         compareAll();
         checkLaws();
+    }
+
+    /** All calls that are promised, with questions among them. */
+    private void runLong() {
+        int questionsIn = 2 + seed % 20;
+        for (int i = 1; i <= MOST_CALLS; i++) {
+            make(chance.nextInt(questionsIn) == 0 ? someQuestion() : someCall());
+        }
     }
 
     /** Behind the promised calls answers are free, but a call still ends without a throw. */
@@ -537,8 +604,11 @@ public final class RestartBookModel {
     }
 
     public static void main(String[] args) {
-        for (int seed = 1; seed <= 400; seed++) {
-            new RestartBookModel(seed).run();
+        for (int seed = 1; seed <= 300; seed++) {
+            new RestartBookModel(seed).runShort();
+        }
+        for (int seed = 1001; seed <= 3000; seed++) {
+            new RestartBookModel(seed).runLong();
         }
         runFar();
         System.out.println(wrong == 0 ? "all answers are as due" : wrong + " answers are not as due");
